@@ -387,7 +387,7 @@ public final class TownOnWeight {
     }
 
     private static boolean isIn(int set, int house) {
-        return (set & bit(house)) != 0;
+        return (set >> house & 1) != 0;
     }
 
     private static int oneIf(boolean is) {

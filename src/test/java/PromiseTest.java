@@ -455,6 +455,9 @@ public final class PromiseTest {
         y.hour();
         // DEPTH 5 by 3: 1 rest 2 each; two are left and go to the least
         due("part: of like rests the least", y.part(0) * 100 + y.part(1) * 10 + y.part(2), 221);
+        TownOnWeight one = town("h-0113", "h-2911");
+        one.hour();
+        due("part: all of DEPTH for one foot", one.part(0) * 10 + one.part(1), 40);
         TownOnWeight z = town("c-0390");
         z.length(5);
         z.hour();
@@ -524,6 +527,10 @@ public final class PromiseTest {
         TownOnWeight like = town("h-0120", "h-0120", "h-0120");
         like.length(4);
         due("plan: of like ones the fewest", like.plan(0) * 10 + like.plan(1), 40);
+        TownOnWeight fewest = town("h-1250", "h-0110", "h-0231");
+        fewest.length(8);
+        // without the first two the third takes 3 and 3; without the third they take 1 and 5
+        due("plan: the fewest go ahead of the least bits", fewest.plan(0) * 10 + fewest.plan(1), 64);
         TownOnWeight bits = town("h-0121", "h-0130", "h-0121", "c-0110");
         bits.length(4);
         due("plan: a brake for one is enough", bits.plan(0) * 10 + bits.plan(1), 41);
@@ -912,5 +919,14 @@ public final class PromiseTest {
             1, 0, 8, 0, 0, 3, 1,
             'h', '0', '!',
             2, 20, 16, 1, 2, 2, 0, 1, 1, 3));
+        TownOnWeight y = town("h-1250", "h-0110", "h-0231");
+        y.length(4);
+        // as it is, only the second takes 1; with 9 more 1 and 3, then 5; without the second 3
+        due("digest() of a morning", y.digest(), mixed(
+            0, NONE, 1, 2, 5, 0, 0, 0, 0, 0, 0, 1,
+            0, NONE, 0, 1, 1, 0, 0, 0, 0, 1, 0, 1,
+            0, NONE, 0, 2, 3, 1, 0, 0, 0, 3, 0, 1,
+            0, 5, 3, 2, 8, 7, 1,
+            3, 4, 4, 0, 0, 0, 0, 0, 0, 0));
     }
 }
