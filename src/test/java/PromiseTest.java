@@ -1,13 +1,5 @@
-import java.util.function.ToLongFunction;
-
 /** One method for each promise of the document; every due answer is worked out by hand from its words. */
-public final class PromiseTest {
-    private static final int NONE = -1, UNKNOWN = -101, OUTSIDE = -102, STATE = -103, FULL = -104;
-    private static final int[] WRONG_HOUSES = {-1, 8, 100, Integer.MIN_VALUE, Integer.MAX_VALUE};
-
-    private static int checks = 0;
-    private static int wrong = 0;
-
+public final class PromiseTest extends Check {
     public static void main(String[] args) {
         newObject();
         letters();
@@ -38,61 +30,7 @@ public final class PromiseTest {
         restore();
         count();
         digest();
-        System.out.println(checks + " checks of promises, " + wrong + " wrong");
-        if (wrong != 0) {
-            System.exit(1);
-        }
-    }
-
-    // ---- helpers
-
-    private static void due(String call, long got, long want) {
-        checks++;
-        if (got != want) {
-            wrong++;
-            System.out.println(call + " answered " + got + ", due is " + want);
-        }
-    }
-
-    /** A call that is refused answers with the code and changes nothing. */
-    private static void refused(String call, TownOnWeight x, long code, ToLongFunction<TownOnWeight> made) {
-        long before = x.digest();
-        due(call, made.applyAsLong(x), code);
-        due(call + ", which changes nothing", x.digest(), before);
-    }
-
-    private static long text(String letters) {
-        long w = 0;
-        for (int i = letters.length() - 1; i >= 0; i--) {
-            w = w << 8 | letters.charAt(i);
-        }
-        return w;
-    }
-
-    private static void write(TownOnWeight x, String letters) {
-        x.blank();
-        for (int i = 0; i < letters.length(); i += 8) {
-            x.letters(text(letters.substring(i, Math.min(letters.length(), i + 8))));
-        }
-    }
-
-    private static TownOnWeight town(String... houses) {
-        TownOnWeight x = new TownOnWeight();
-        for (int i = 0; i < houses.length; i++) {
-            write(x, houses[i]);
-            due("house() of " + houses[i], x.house(), i);
-        }
-        return x;
-    }
-
-    private static TownOnWeight fullTown() {
-        return town("h-0910", "h-0910", "h-0910", "h-0910", "h-0910", "h-0910", "h-0910", "h-0910");
-    }
-
-    private static void hours(TownOnWeight x, int many) {
-        for (int i = 0; i < many; i++) {
-            x.hour();
-        }
+        finish("checks of promises");
     }
 
     // ---- houses
