@@ -75,7 +75,6 @@ public final class TownOnWeight {
         }
         int added = houses.number;
         houses.add(page);
-        day.welcome(added);
         page.size = 0;
         return added;
     }
@@ -565,7 +564,12 @@ public final class TownOnWeight {
         }
     }
 
-    /** All that changes as HOURS and NIGHTS pass. */
+    /**
+     * All that changes as HOURS and NIGHTS pass.
+     *
+     * Of numbers that no HOUSE has the rows hold 0 and BRAKES no bit, as only restore() takes HOUSES away
+     * and brings back the rows of a time at which they had not come: so a new HOUSE begins with nothing.
+     */
     private static final class Day {
         private int length = FIRST_LENGTH;
         private int hangs = FIRST_LENGTH;
@@ -604,13 +608,6 @@ public final class TownOnWeight {
 
         private boolean hourComes() {
             return hour < HOURS && !down;
-        }
-
-        /** A HOUSE is new under this number: nothing is known of it yet. */
-        private void welcome(int house) {
-            taken[house] = 0;
-            owed[house] = 0;
-            brakes &= ~bit(house);
         }
 
         private int wantOf(Houses houses, int house) {

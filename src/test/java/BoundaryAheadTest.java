@@ -143,6 +143,13 @@ public final class BoundaryAheadTest extends Check {
         duePlan("HOUR 8", x, 4 + 1, 0);
     }
 
+    static void p17_ofWhatHangsNow() {
+        TownOnWeight x = townOf(89, "h-0199", "h-0199", "h-0199", "h-0199", "h-1259", "h-1940");
+        due("hour()", x.hour(), 72);
+        // of 17 feet the fifth would let 14 go for 5; without it the sixth takes 4 four times
+        duePlan("17 feet of 89", x, 16, 16);
+    }
+
     static void p17_whatIs0Or1() {
         TownOnWeight x = town("h-0910");
         refused("plan(-1)", x, OUTSIDE, t -> t.plan(-1));

@@ -379,6 +379,14 @@ public final class BoundaryAllTest extends Check {
         due("the order of letters counts", ab.digest() == ba.digest() ? 1 : 0, 0);
     }
 
+    static void p29_moreBy9() {
+        TownOnWeight x = townOf(1, "h-0910", "h-0910");
+        for (int feet = 8; feet <= 10; feet++) {
+            due("more(" + feet + ")", x.more(feet), feet);
+        }
+        dueDigest("9 feet more", x, "");
+    }
+
     private static TownOnWeight eightOfAllKinds() {
         TownOnWeight x = townOf(99, "h-0912", "c00923", "u10934", "s20945", "x30956", "h-1967", "c-0218", "s50999");
         x.rain(true);

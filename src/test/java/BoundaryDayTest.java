@@ -434,6 +434,14 @@ public final class BoundaryDayTest extends Check {
         dueParts("nothing TAKEN", x, 0, 0);
     }
 
+    static void p15_oneFootWasTaken() {
+        TownOnWeight x = town("h-8910", "h-0119");
+        x.hour();
+        dueParts("all of 10 for one foot", x, 0, 10);
+        due("night()", x.night(), 10);
+        dueOfEach("OWES", x, 7, 0, 10);
+    }
+
     static void p15_withoutRests() {
         TownOnWeight x = town("h-0111", "h-0111");
         x.hour();

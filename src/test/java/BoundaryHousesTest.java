@@ -427,6 +427,22 @@ public final class BoundaryHousesTest extends Check {
         due("wants(1)", x.wants(1), 1);
     }
 
+    static void p05_theOthersStayAsTheyAre() {
+        TownOnWeight x = town("h-0930", "c-0910");
+        hours(x, 9);
+        x.night();
+        x.length(50);
+        x.brake(0, true);
+        x.rain(true);
+        x.read(1, 5);
+        write(x, "h00910");
+        due("house()", x.house(), 2);
+        dueOfEach("BRAKE", x, 8, 1, 0, 0);
+        dueOfEach("OWES", x, 7, 27, 9, 0);
+        dueCounts("all else", x, 3, 50, 50, 0, 0, 0, 0, 1, 1, 0);
+        due("leak(0)", x.leak(0), 2);
+    }
+
     // ---- promise 6
 
     static void p06_leastAndGreatestOfEach() {
