@@ -34,6 +34,7 @@ public final class ModelTest {
         private final TownOnWeight x = new TownOnWeight();
         private final Model m = new Model();
         private final StringBuilder told = new StringBuilder();
+        private int calls = 0;
 
         Run(int number) {
             this.number = number;
@@ -41,23 +42,22 @@ public final class ModelTest {
         }
 
         void go() {
-            int calls = 0;
             int settle = random.nextInt(9);
             for (int i = 0; i < settle; i++) {
                 String page = drawnHouse();
                 long w = asLong(page);
                 same("letters(" + page + ")", x.letters(w), m.letters(w));
                 same("house()", x.house(), m.house());
-                calls += 2;
             }
-            while (calls < CALLS && wrong == 0) {
+            // one draw may ask twice
+            while (calls < CALLS - 1 && wrong == 0) {
                 one();
-                calls++;
             }
         }
 
         private void same(String call, long got, long want) {
             answers++;
+            calls++;
             told.append(call).append(" = ").append(want).append('\n');
             if (got != want) {
                 wrong++;
